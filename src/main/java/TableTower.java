@@ -360,7 +360,7 @@ public final class TableTower {
     }
 
     private void needTableInTower(int table) {
-        if (table < 0 || table >= town.tables || now.tower.levelOf(table) == NONE) {
+        if (now.tower.levelOf(table) == NONE) {
             throw new NoSuchElementException("no such TABLE in THE TOWER");
         }
     }
@@ -577,10 +577,12 @@ public final class TableTower {
             place = NONE;
             end = 0;
             next();
-            for (int i = 0; i < MOST_BYTES && fault == 0 && token != ENDED; i++) {
-                line();
+            for (int i = 0; i < MOST_BYTES && token != ENDED; i++) {
+                if (!line()) {
+                    return fault;
+                }
             }
-            return fault;
+            return 0;
         }
 
         private boolean line() {
@@ -1667,7 +1669,6 @@ public final class TableTower {
 
         private void fillEatable() {
             int lowest = now.order[0];
-            int highest = now.order[now.levels - 1];
             trial.become(now);
             for (int low = 0; low <= MOST_EATEN; low++) {
                 trial.meal[lowest] = now.meal[lowest] + low;
@@ -1822,7 +1823,7 @@ public final class TableTower {
             return town.leanTimes(table) * (lean - state.tower.lean[table]);
         }
 
-        /** Whether all SEEN is so, if TILTS from a LEVEL on were by a shift more; of a LEVEL that is gone nothing is. */
+        /** Whether all SEEN is so with TILTS from a LEVEL on more by a shift; what is SEEN of a LEVEL now gone isn't. */
         private boolean allSo(int from, int shift) {
             Tower tower = state.tower;
             for (int i = 0; i < state.seen; i++) {

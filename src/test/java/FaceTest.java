@@ -99,12 +99,13 @@ public final class FaceTest {
     }
 
     private static void source(String text) {
-        for (String word : new String[] {"->", "::", "catch", "finally", "Exact(", "synchronized", "assert ", "import java.util.*",
-            "System.out", "Random", "currentTime", "nanoTime", "new int[][]", "package ", "static {"}) {
+        for (String word : new String[] {"->", "::", "catch", "finally", "Exact(", "synchronized", "assert ",
+            "import java.util.*", "System.out", "Random", "currentTime", "nanoTime", "new int[][]", "package ", "static {"}) {
             Check.that("no " + word, !text.contains(word));
         }
         for (int i = 0; i < text.length(); i++) {
-            Check.that("signs 10 and 32 to 126 alone", text.charAt(i) == '\n' || text.charAt(i) >= 32 && text.charAt(i) < 127);
+            char sign = text.charAt(i);
+            Check.that("signs 10 and 32 to 126 alone", sign == '\n' || sign >= 32 && sign < 127);
         }
         Check.that("one import", text.split("\nimport ", -1).length + (text.startsWith("import ") ? 1 : 0) == 2);
         shortMethods(text.split("\n", -1));

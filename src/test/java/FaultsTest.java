@@ -175,6 +175,10 @@ public final class FaultsTest {
 
     private static void noValues() {
         fault("takes x;", 3, 6);
+        fault("takes z;", 3, 6);
+        fault("takes a;", 3, 6);
+        fault("takes `;", 1, 6);
+        fault("takes {;", 1, 6);
         fault("takes oak;", 3, 6);
         fault("takes limit;", 3, 6);
         fault("takes and;", 3, 6);
@@ -254,6 +258,12 @@ public final class FaultsTest {
         gives("0-1 and 1", 1);
         gives("(1<2)*50", 50);
         gives("(3)", 3);
+        // As many numbers wait as can: five within each of six EXPRs.
+        String deep = "7";
+        for (int i = 0; i < 6; i++) {
+            deep = "0 or 1 and 0<0+1*" + (i == 0 ? deep : "(" + deep + ")");
+        }
+        gives(deep, 1);
     }
 
     private static void values() {

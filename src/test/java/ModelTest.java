@@ -23,6 +23,7 @@ public final class ModelTest {
     }
 
     private static final List<Method> FACE = new ArrayList<>();
+    private static final List<String> ORDERS = List.of("most", "row", "orders", "lifted", "wedges");
 
     public static void main(String[] args) throws Exception {
         int runs = args.length > 0 ? Integer.parseInt(args[0]) : 400;
@@ -34,7 +35,8 @@ public final class ModelTest {
         FACE.sort(Comparator.comparing(Method::getName));
         int wrong = 0;
         for (int run = 0; run < runs; run++) {
-            ModelTest test = new ModelTest(run, run % 40 == 39 ? 7 : run % 4 == 0 ? 4 : 5);
+            int tables = run % 40 == 39 ? 7 : run % 4 == 0 ? 4 : run % 4 == 1 ? 10 : 5;
+            ModelTest test = new ModelTest(run, tables);
             if (!test.run()) {
                 wrong++;
                 System.out.println("run " + run + ":");
@@ -78,7 +80,7 @@ public final class ModelTest {
         while (calls < CALLS) {
             int before = told.size();
             if (calls == 0 || random.nextInt(170) == 0) {
-                String text = text();
+                String text = random.nextInt(12) == 0 ? text() : goodText();
                 if (calls + text.length() / 20 + 2 > CALLS) {
                     return true;
                 }
@@ -112,10 +114,13 @@ public final class ModelTest {
     private boolean anyCall() throws Exception {
         Method m = FACE.get(random.nextInt(FACE.size()));
         String name = m.getName();
+        // Of ten TABLES there are too many orders for the Model.
+        if (maxTables > 7 && ORDERS.contains(name)) {
+            return true;
+        }
         // A town by chance would mostly empty the tower; a feed by chance would spoil the next text.
-        if ((name.equals("town") || name.equals("feed")) && random.nextInt(100) != 0) {
-            name = "supper";
-            m = TableTower.class.getMethod(name);
+        if ((name.equals("town") || name.equals("feed")) && random.nextInt(200) != 0) {
+            return call("supper");
         }
         if (name.equals("feed")) {
             // The tape must be known again.
@@ -203,6 +208,19 @@ public final class ModelTest {
 
     // ---- texts
 
+    /** One without a FAULT, and with some TABLES. */
+    private String goodText() throws Exception {
+        for (int tries = 0; tries < 1000; tries++) {
+            String text = text();
+            ModelTest other = new ModelTest(0, maxTables);
+            other.feedText(text);
+            if (other.model.town(text.length()) == 0 && other.model.count(0) * 2 >= maxTables) {
+                return text;
+            }
+        }
+        return "";
+    }
+
     private String text() {
         StringBuilder text = new StringBuilder();
         int lines = random.nextInt(maxTables + 1);
@@ -210,7 +228,7 @@ public final class ModelTest {
             lines = Math.max(lines, maxTables - 2);
         }
         if (random.nextBoolean()) {
-            text.append("limit ").append(random.nextInt(random.nextBoolean() ? 41 : 8)).append(";");
+            text.append("limit ").append(random.nextInt(random.nextInt(3) != 0 ? 41 : 8)).append(";");
         }
         if (random.nextBoolean()) {
             text.append("food ").append(random.nextInt(random.nextBoolean() ? 1000 : 60)).append("; ");

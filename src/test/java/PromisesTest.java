@@ -644,6 +644,8 @@ public final class PromisesTest {
         due("29 a castor", 41, x.oneWedge());
         x = Check.tower("limit 0;oak 1 9 0 1;oak 1 9 4 1;");
         due("29 the higher one", 146, x.oneWedge());
+        due("29 by 9", 59, Check.tower("limit 0;oak 1 9 -9 1;").oneWedge());
+        due("29 by -9", 41, Check.tower("limit 0;oak 1 9 9 1;").oneWedge());
         due("29 nothing changes", 0, x.count(9));
         due("29 without TABLES", NONE, new TableTower().oneWedge());
     }
@@ -684,8 +686,14 @@ public final class PromisesTest {
         x = Check.tower("oak 1 9 0 1;oak 1 9 0 1;oak 1 9 0 1;");
         due("31 as much is not more", NONE, x.swap());
         x = Check.tower("oak 5 9 0 1;oak 5 9 0 1;oak 1 9 0 1;oak 1 99 0 1;");
-        // 9 - 7 = 2; 3 first: 99, then 5 + 1 + 5 .. 9 - 6 or so; of like ones the first.
+        // 9 - 7 = 2; 0 and 3: 99 - 11, 9 - 6 = 3; all others 2, or it doesn't stand.
         due("31 the lower, then the higher", 3, x.swap());
+        x = Check.tower("oak 5 9 0 1;oak 1 8 0 1;oak 2 9 0 1;");
+        // 9 - 3 = 6; 1 below 8 - 7, 2 below 9 - 6; 1 and 2 as it is.
+        due("31 none", NONE, x.swap());
+        x = Check.tower("limit 2;oak 1 9 2 1;oak 1 9 2 1;oak 1 9 -2 1;");
+        // 0 and 2, 1 and 2: both stand by 7.
+        due("31 of like ones the first", 2, x.swap());
         due("31 without TABLES", NONE, new TableTower().swap());
     }
 
@@ -813,6 +821,10 @@ public final class PromisesTest {
         due("39 none", NONE, x.which(1));
         Check.thrown("39 what 3", NSE, () -> x.which(3));
         Check.thrown("39 what -1", NSE, () -> x.which(-1));
+        TableTower z = Check.tower("castor 1 9 -9 1;");
+        z.see(0, 18);
+        due("39 LEAN 9 alone", 1, z.which(0));
+        due("39 LEAN 9", 59, z.which(1));
         TableTower y = Check.tower("oak 1 9 1 1;oak 1 9 1 1;");
         y.see(1, 2);
         y.take(1);
@@ -834,6 +846,20 @@ public final class PromisesTest {
         x = Check.tower("oak 1 9 0 1;oak 1 9 9 1;");
         // At 0: 18 and the TILT as it is, 19; at 1: -9 .. 9 and -9 .. 9 less its own, -18 to -1 from 9: more.
         due("40 at the higher one", 1, x.look());
+        // At 0: 18 of the lower one and as it is; at 1: 18 of it, of the castor by -36 to -20, -18 itself is of both.
+        due("40 the farthest", 1, Check.tower("oak 1 9 9 1;castor 1 9 9 1;").look());
+        x = Check.tower("oak 1 9 0 1;oak 1 9 0 1;");
+        // At 0: -9 to 9; at 1: -9 to 9, but for the TILT as it is.
+        due("40 as it is, is none of these", 0, x.look());
+        x = Check.tower("castor 1 9 9 1;castor 1 9 -9 1;");
+        x.see(1, -36);
+        // The lower one by -9 alone: the higher one would have to lean by -27.
+        due("40 by 36", 0, x.look());
+        x = Check.tower("oak 1 9 0 1;castor 1 9 9 1;oak 1 9 9 1;");
+        x.see(0, 0);
+        x.see(2, 9);
+        // (1: 0), (2: -9): at LEVEL 1 0 and 18.
+        due("40 told apart by 18", 1, x.look());
     }
 
     private static void forget() {
@@ -972,6 +998,13 @@ public final class PromisesTest {
             x.saw(0, 9);
             x.forget();
         }
+        TableTower y = Check.tower("limit 0;oak 1 9 0 1;");
+        y.image();
+        y.wedge(0, 1);
+        due("45 most before", 0, y.most(0));
+        y.restore();
+        due("45 most as it was", 1, y.most(0));
+        due("45 row as it was", 0, y.row(0));
         x.image();
         x.saw(0, 1);
         x.restore();
