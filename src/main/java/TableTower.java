@@ -1035,7 +1035,7 @@ public final class TableTower {
 
         /** MORE, or NONE. */
         int room() {
-            if (!stands()) {
+            if (breaksAt() != NONE) {
                 return NONE;
             }
             int least = MOST_MORE;
