@@ -734,6 +734,14 @@ final class ActEdges {
 
         Edge.of(Edge.TERMS, "AN IMAGE keeps THE TOWER, MEALS, WEDGES, LEANS, worm, ACTS that are kept, what is SEEN, STATUS");
         keptOneByOne();
+        x.undo();
+        x.undo();
+        x.undo();
+        x.years(30);
+        x.change(0, 1);
+        x.supper();
+        // ACTS of other kinds stand in place of those that the image keeps.
+        Edge.due("restore again", true, x.restore());
         TableTower same = eventful();
         for (int left = x.count(9) - 1; left >= 0; left--) {
             Edge.due("undo", left, x.undo());
@@ -745,6 +753,7 @@ final class ActEdges {
         }
 
         Edge.of(45, "False: there is none.");
+        Edge.due("a new object", false, new TableTower().restore());
         TableTower none = Edge.tower(THREE);
         none.wedge(0, 4);
         Edge.telling("none yet", none, 0, () -> none.restore() ? 1 : 0);

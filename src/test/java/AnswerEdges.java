@@ -132,13 +132,38 @@ final class AnswerEdges {
         Edge.due("LEANS", 0, z.most(1));
         TableTower folding = Edge.tower("folding 9 18 0 1;folding 9 10 0 1;");
         Edge.row("a folding one below carries half", folding, 0, 1);
-        Edge.due("at the top all", 2, Edge.tower("folding 1 2 0 9;oak 9 1 0 1;").most(0));
+        folding.saw(1, 1);
+        folding.change(0, 1);
+        Edge.row("whatever THE TOWER is", folding, 0, 1);
+        TableTower half = Edge.tower("folding 9 17 0 1;folding 9 10 0 1;");
+        Edge.due("neither carries 9 by half", 1, half.most(1));
+        TableTower top = Edge.tower("folding 1 9 0 9;oak 9 99 0 1;");
+        top.supper();
+        Edge.row("a folding one at the top carries all", top, 1, 0);
+        TableTower fed = Edge.tower("oak 1 10 0 1;oak 5 10 0 6;");
+        Edge.row("no MEALS yet", fed, 0, 1);
+        fed.supper();
+        // 5 and 6 and its own 1 are more than 10; the other way it is 1 and 1 and its own 6.
+        Edge.row("MEALS of those above", fed, 1, 0);
+        TableTower again = Edge.tower("limit 0;oak 1 9 0 1;");
+        Edge.due("one", 1, again.most(1));
+        again.image();
+        again.wedge(0, 1);
+        Edge.due("none", 0, again.most(1));
+        again.restore();
+        Edge.due("restored", 1, again.most(1));
+        Check.tell(again, "limit 0;oak 1 9 1 1;oak 1 9 0 1;");
+        Edge.due("another town", 2, again.most(1));
     }
 
     private static void row() {
         Edge.of(20, "The TABLE on the i-th LEVEL of THE MOST's row.");
         TableTower x = Edge.tower("oak 5 0 0 1;oak 1 5 0 1;oak 9 6 0 1;");
+        Edge.due("row() before most()", 2, x.row(0));
         Edge.row("one order alone", x, 2, 1, 0);
+        x.years(1);
+        Edge.due("row() behind a YEAR", 0, x.row(1));
+        x.undo();
         Edge.telling("row", x, 1, () -> x.row(1));
 
         Edge.of(20, "NoSuchElementException: there is none.");
@@ -185,6 +210,14 @@ final class AnswerEdges {
         TableTower y = Edge.tower("oak 5 0 0 1;");
         y.supper();
         Edge.due("the highest one's LOAD is its MEAL", 0, y.orders());
+        TableTower fed = Edge.tower("oak 1 10 0 1;oak 5 10 0 6;");
+        Edge.due("no MEALS yet", 2, fed.orders());
+        fed.supper();
+        Edge.due("MEALS of those above", 1, fed.orders());
+        Edge.due("a folding one below carries half", 1, Edge.tower("folding 9 18 0 1;folding 9 17 0 1;").orders());
+        TableTower top = Edge.tower("folding 1 9 0 9;oak 9 99 0 1;");
+        top.supper();
+        Edge.due("a folding one at the top carries all", 1, top.orders());
     }
 
     private static void wedges() {
@@ -208,6 +241,12 @@ final class AnswerEdges {
         Edge.due("a castor's count twice", 4, Edge.tower("limit 2;castor 1 9 5 1;").wedges());
         Edge.due("a castor and an odd LIMIT", 5, Edge.tower("limit 1;castor 1 9 5 1;").wedges());
         Edge.due("LIMIT 40", 5, Edge.tower("limit 40;" + "oak 1 9 9 1;".repeat(5)).wedges());
+        Edge.due("40 below 0", 5, Edge.tower("limit 40;" + "oak 1 9 -9 1;".repeat(5)).wedges());
+        Edge.due("40, and on", 0, Edge.tower("limit 40;" + "oak 1 9 9 1;".repeat(4) + "oak 1 9 4 1;oak 1 9 0 1;").wedges());
+        Edge.due("40 below 0, and on", 0,
+            Edge.tower("limit 40;" + "oak 1 9 -9 1;".repeat(4) + "oak 1 9 -4 1;oak 1 9 0 1;").wedges());
+        Edge.due("9 more", 14, Edge.tower("limit 40;" + "oak 1 9 9 1;".repeat(6)).wedges());
+        Edge.due("9 more below 0", 14, Edge.tower("limit 40;" + "oak 1 9 -9 1;".repeat(6)).wedges());
         // 18 and 81: 59 too much. The castor takes off 18 by 9, what is left comes one by one.
         Edge.due("-9 to 9 each", 9 + 41, Edge.tower("limit 40;castor 1 9 9 1;" + "oak 1 9 9 1;".repeat(9)).wedges());
         Edge.due("LOADS count for nothing", 0, Edge.tower("oak 1 0 0 1;oak 1 0 0 1;").wedges());
@@ -215,7 +254,9 @@ final class AnswerEdges {
 
     private static void when() {
         Edge.of(23, "WHEN (0: it doesn't stand now); NONE: none.");
-        Edge.due("doesn't stand", 0, Edge.tower("oak 1 0 0 1;oak 1 9 0 1;").when());
+        Edge.due("loaded too much", 0, Edge.tower("oak 1 0 0 1;oak 1 9 0 1;").when());
+        Edge.due("loaded far too much", 0, Edge.tower("oak 1 0 0 1;oak 9 9 0 1;").when());
+        Edge.due("leans too much", 0, Edge.tower("limit 0;oak 1 9 1 1;").when());
         Edge.due("never", NONE, Edge.tower("pine 1 0 0 1;").when());
         Edge.due("without LEVELS", NONE, new TableTower().when());
 
@@ -237,7 +278,16 @@ final class AnswerEdges {
         Edge.due("one", 0, Edge.tower("oak 1 9 0 1;").marriages());
         // A row of four, 0 1 2 3: 1 and 2 must not stand in the way of 0 and 1, 2 and 3.
         TableTower x = Edge.tower("oak 9 5 0 1;oak 5 9 0 1;oak 5 9 0 1;oak 9 5 0 1;");
+        x.orders();
         Edge.telling("two", x, 2, x::marriages);
+        TableTower three = Edge.tower(THREE);
+        Edge.due("six orders", 6, three.orders());
+        Edge.due("one couple of three", 1, three.marriages());
+        TableTower single = Edge.tower("oak 9 5 0 1;oak 9 5 0 1;oak 9 5 0 1;");
+        single.take(0);
+        single.take(1);
+        Edge.due("one order", 1, single.orders());
+        Edge.due("no couple", 0, single.marriages());
         Edge.due("five of ten", 5, Edge.tower("oak 1 9 0 1;".repeat(10)).marriages());
         Edge.due("four of nine", 4, Edge.tower("oak 1 9 0 1;".repeat(9)).marriages());
 
@@ -389,6 +439,7 @@ final class AnswerEdges {
         Edge.due("-9 in place of 9", 41, far.oneWedge());
         Edge.due("the higher one", 146, Edge.tower("limit 0;oak 1 9 0 1;oak 1 9 4 1;").oneWedge());
         Edge.due("a castor by 18 less", 41, Edge.tower("limit 1;castor 1 9 9 1;").oneWedge());
+        Edge.due("none of ten", NONE, Edge.tower("limit 0;" + "oak 1 9 1 1;".repeat(10)).oneWedge());
         Edge.due("10 would be needed", NONE, Edge.tower("limit 8;oak 1 9 9 1;oak 1 9 9 1;").oneWedge());
         Edge.due("9 will do", 41, Edge.tower("limit 9;oak 1 9 9 1;oak 1 9 9 1;").oneWedge());
     }
@@ -570,6 +621,7 @@ final class AnswerEdges {
         like.change(0, 2);
         Edge.due("the least TABLE, not the lowest LEVEL", 0, like.relief());
         Edge.due("nothing is left", 0, Edge.tower("limit 0;oak 1 9 9 1;").relief());
+        Edge.due("the tenth of ten", 9, Edge.tower("limit 0;" + "oak 1 99 0 1;".repeat(9) + "oak 1 99 1 1;").relief());
         Edge.due("MORE of 0 is MORE", 1, Edge.tower("limit 0;oak 1 0 0 1;oak 1 0 9 1;").relief());
 
         Edge.of(Edge.TERMS, "none, if by none it STANDS");
@@ -594,6 +646,7 @@ final class AnswerEdges {
         TableTower like = Edge.tower("oak 1 9 0 4;oak 1 9 0 4;");
         like.change(0, 1);
         Edge.due("the least TABLE, not the lowest LEVEL", 0, like.hungriest());
+        Edge.due("the tenth of ten", 9, Edge.tower("oak 1 9 0 4;".repeat(9) + "oak 1 9 0 5;").hungriest());
 
         Edge.of(Edge.TERMS, "none, if all are FULL");
         x.take(1);

@@ -5,6 +5,7 @@ public final class EdgesTest {
         ActEdges.all();
         AnswerEdges.all();
         LegEdges.all();
+        EmptyEdges.all();
         Edge.end();
     }
 }

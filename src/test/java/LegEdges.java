@@ -123,6 +123,25 @@ final class LegEdges {
         TableTower castor = Edge.tower("castor 1 9 9 1;castor 1 9 -9 1;");
         castor.see(1, -36);
         Edge.due("by 36 less", 0, castor.look());
+        TableTower more = Edge.tower("castor 1 9 -9 1;castor 1 9 9 1;");
+        more.see(1, 36);
+        Edge.due("by 36 more", 0, more.look());
+        for (int far : new int[] {9, -9, 1, -1}) {
+            TableTower three = Edge.tower("oak 1 9 0 1;oak 1 9 0 1;oak 1 9 0 1;");
+            three.see(0, 0);
+            three.see(2, far);
+            Edge.due("1 or 2 by " + far, 1, three.look());
+        }
+        TableTower four = Edge.tower("oak 1 9 0 1;".repeat(4));
+        four.see(3, 5);
+        // 5 0 0 0, 5 5 0 0, 5 5 5 0, 5 5 5 5.
+        Edge.due("two, two, two, one", 0, four.look());
+        // 1 0 2 3, and 1 leans by 5: 2 or 3 by any LEAN; LEVEL 2 has 19 TILTS, LEVEL 3 has 18.
+        four.forget();
+        four.see(1, 5);
+        four.change(0, 1);
+        four.saw(1, 5);
+        Edge.due("as THE TOWER is now", 2, four.look());
 
         Edge.of(Edge.TERMS, "none without any");
         like.see(2, 6);

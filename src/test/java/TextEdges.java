@@ -318,6 +318,11 @@ final class TextEdges {
         Edge.of(Edge.TERMS, "words (a .. z, the longest row)");
         fault("oakx 1 9 0 1;", 1, 0);
         fault("oak oak", 1, 4);
+        for (String word : new String[] {"pine", "oak", "folding", "castor", "limit", "food", "takes"}) {
+            for (int i = 0; i < word.length(); i++) {
+                fault(word.substring(0, i) + "q" + word.substring(i + 1) + " 1", 1, 0);
+            }
+        }
         fault("takes levelx;", 3, 6);
         fault("takes aazz;", 3, 6);
         fault("takes `a;", 1, 6);
@@ -485,6 +490,12 @@ final class TextEdges {
         gives("0-7 or 0", 1);
         gives("3 or 4", 1);
         gives("0 or 0", 0);
+        for (String no : new String[] {"2<2", "2=3", "not 7", "5 and 0", "0 or 0"}) {
+            gives("3+(" + no + ")", 3);
+        }
+        for (String yes : new String[] {"1<2", "3=3", "not 0", "5 and 6", "7 or 0"}) {
+            gives("3+(" + yes + ")", 4);
+        }
     }
 
     private static void values() {
@@ -572,10 +583,14 @@ final class TextEdges {
         fault("takes not", 1, 9);
         fault("takes 1 and  ", 1, 13);
         fault("takes ((((((", 1, 12);
-        TableTower x = new TableTower();
-        Check.feed(x, "limit 1;");
-        x.town(7);
-        Edge.due("behind the first n bytes nothing is read", 7, x.fault());
+        String[] texts = {"limit 1;", "limit 100;", "limitx;", "limit  1;", "takes 1+1;"};
+        int[] bytes = {7, 7, 5, 6, 8};
+        for (int i = 0; i < texts.length; i++) {
+            TableTower x = new TableTower();
+            Check.feed(x, texts[i]);
+            Edge.due(bytes[i] + " bytes of " + texts[i], 1, x.town(bytes[i]));
+            Edge.due("behind these nothing is read", bytes[i], x.fault());
+        }
     }
 
     private static void faultTwo() {
