@@ -59,6 +59,18 @@ final class ActEdges {
             Edge.due("MEAL", meals[i], y.table(i, 5));
         }
 
+        Edge.of(Edge.TERMS, "FOOD comes from LEVEL 0 up: each TABLE of THE TOWER takes what TAKES gives");
+        TableTower up = Edge.tower("food 9;oak 1 9 0 5;oak 1 9 0 5;oak 1 9 0 5;");
+        up.change(0, 2);
+        up.supper();
+        Edge.due("the lowest first", 5, up.table(2, 5));
+        Edge.due("then the next", 4, up.table(1, 5));
+        Edge.due("nothing is left", 0, up.table(0, 5));
+        up.take(2);
+        up.supper();
+        Edge.due("of THE TOWER", 0, up.table(2, 5));
+        Edge.due("of THE TOWER", 4, up.table(0, 5));
+
         Edge.of(Edge.TERMS, "what is left at the top is CRUMBS");
         TableTower z = Edge.tower("food 19;oak 1 9 0 5;oak 1 9 0 5;oak 1 9 0 5;");
         Edge.due("4 of 19", 4, z.supper());
@@ -405,6 +417,17 @@ final class ActEdges {
         Edge.due("the higher one first", true, x.change(1, 0));
         Edge.order("then", x, 1, 2, 0);
 
+        Edge.of(Edge.TERMS, "two LEVELS CHANGE their TABLES");
+        TableTower two = Edge.tower(THREE);
+        two.supper();
+        two.wedge(0, 4);
+        two.change(2, 0);
+        Edge.order("the one between stays", two, 2, 1, 0);
+        Edge.due("a WEDGE goes with its TABLE", 4, two.level(2, 3));
+        Edge.due("below it is even", 0, two.level(1, 3));
+        two.change(0, 2);
+        Edge.order("back", two, 0, 1, 2);
+
         Edge.of(11, "False (STATUS 1): both are one.");
         for (int level = 0; level < 3; level++) {
             int one = level;
@@ -496,6 +519,17 @@ final class ActEdges {
     }
 
     private static void yearsTerms() {
+        Edge.of(Edge.TERMS, "YEARS go by (1 to 30)");
+        TableTower all = Edge.tower("oak 1 999 0 1;");
+        int sum = 0;
+        for (int many = 1; many <= 30; many++) {
+            sum += many;
+            Edge.due("in all", sum, all.years(many));
+        }
+        Edge.due("worm of all", 999 - 465, all.table(0, 2));
+        Edge.due("0", NONE, all.years(0));
+        Edge.due("31", NONE, all.years(31));
+
         Edge.of(Edge.TERMS, "3 from pine, 1 from oak, 2 from the others (of those that are by, too)");
         TableTower x = Edge.tower("pine 1 99 0 1;oak 1 99 0 1;folding 1 99 0 1;castor 1 99 0 1;");
         x.years(1);

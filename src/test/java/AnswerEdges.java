@@ -40,6 +40,14 @@ final class AnswerEdges {
         TableTower x = Edge.tower(FOUR);
         Edge.telling("30 - 11, 20 - 6, 10 - 2, 15", x, 8, x::more);
 
+        Edge.of(Edge.TERMS, "the most that could be put on it still, so that it STANDS");
+        TableTower just = Edge.tower("oak 1 9 0 0;oak 1 99 0 8;");
+        Edge.due("8", 8, just.more());
+        Edge.due("by 8 it stands", NONE, just.nod(1, 8));
+        Edge.due("by 9 it doesn't", 0, just.nod(1, 9));
+        just.supper();
+        Edge.due("nothing more", 0, just.more());
+
         Edge.of(Edge.TERMS, "(0 to 9999; it comes to the LOAD of each LEVEL, the highest one's too; nothing else is otherwise)");
         Edge.due("0", 0, Edge.tower("oak 1 1 0 1;oak 1 9 0 1;").more());
         Edge.due("without LEVELS", 9999, new TableTower().more());
@@ -291,6 +299,14 @@ final class AnswerEdges {
         Edge.due("five of ten", 5, Edge.tower("oak 1 9 0 1;".repeat(10)).marriages());
         Edge.due("four of nine", 4, Edge.tower("oak 1 9 0 1;".repeat(9)).marriages());
 
+        Edge.of(Edge.TERMS, "two TABLES (of all) can MARRY");
+        TableTower by = Edge.tower(THREE);
+        by.take(0);
+        by.take(2);
+        Edge.due("both are by", true, by.marry(0, 2));
+        Edge.due("one is by", true, by.marry(2, 1));
+        Edge.due("of all", 1, by.marriages());
+
         Edge.of(Edge.TERMS, "the most couples at once, each TABLE in one at most");
         Edge.due("all with 0 alone", 1, Edge.tower("oak 3 9 0 1;oak 4 3 0 1;oak 4 3 0 1;oak 4 3 0 1;").marriages());
         x.take(0);
@@ -389,6 +405,15 @@ final class AnswerEdges {
         Edge.telling("all others that lean", x, 6, () -> x.out(0));
         Edge.telling("all that lean", x, 7, () -> x.out(3));
         Edge.due("none", 0, Edge.tower(THREE).out(1));
+
+        Edge.of(Edge.TERMS, "the fewest others of it that must be taken off with it, so that what is left STANDS");
+        TableTower fewest = Edge.tower("oak 1 3 0 1;oak 2 9 0 1;oak 2 9 0 1;oak 1 9 0 1;");
+        // 5 on 3: with 3 off 4 on 3, so one more of the others must go; with 1 or 2 off it stands.
+        Edge.due("with 3", 1, fewest.out(3));
+        Edge.due("with 2", 0, fewest.out(2));
+        Edge.due("with 1", 0, fewest.out(1));
+        Edge.due("with 0", 0, fewest.out(0));
+        Edge.due("it stands anyway", 0, Edge.tower(THREE).out(2));
 
         Edge.of(28, "NoSuchElementException: also it is by.");
         x.take(2);
@@ -527,6 +552,13 @@ final class AnswerEdges {
         Edge.due("just", 0, Edge.tower("oak 1 7 0 1;oak 7 0 0 1;").slack(0));
         TableTower leaning = Edge.tower("limit 0;oak 1 7 9 1;");
         Edge.due("TILT counts for nothing", 7, leaning.slack(0));
+        Edge.of(Edge.TERMS, "SLACK of a LEVEL: what it carries less its LOAD");
+        TableTower fed = Edge.tower("folding 1 21 0 3;folding 2 21 0 4;");
+        fed.supper();
+        Edge.due("10 less 2, 4 and 3", 1, fed.slack(0));
+        Edge.due("21 less 4", 17, fed.slack(1));
+        fed.years(2);
+        Edge.due("10 less worm of 4", -3, fed.slack(0));
         Edge.noSuchAndSame("LEVEL 1", leaning, () -> leaning.slack(1));
         Edge.noSuch("LEVEL -1", () -> leaning.slack(-1));
     }
@@ -545,6 +577,15 @@ final class AnswerEdges {
         x.years(7);
         Edge.due("from now on", 1, x.broken(0));
         Edge.due("from now on", 0, x.broken(2));
+
+        Edge.of(Edge.TERMS, "BROKEN in so many YEARS (0 to 99): the LEVEL at which it would BREAK then, if only YEARS go by; none");
+        TableTower far = Edge.tower("oak 1 99 0 1;oak 1 0 0 1;");
+        Edge.due("in 98", NONE, far.broken(98));
+        Edge.due("in 99", 0, far.broken(99));
+        far.years(30);
+        Edge.due("in 68 more", NONE, far.broken(68));
+        Edge.due("in 69 more", 0, far.broken(69));
+        Edge.due("leans, whatever goes by", 1, Edge.tower("limit 0;oak 1 9 0 1;oak 1 9 1 1;").broken(0));
 
         Edge.of(33, "IllegalArgumentException: not 0 to 99.");
         for (int years : new int[] {-1, 100, Integer.MIN_VALUE, Integer.MAX_VALUE}) {
